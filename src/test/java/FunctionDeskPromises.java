@@ -346,6 +346,12 @@ public final class FunctionDeskPromises {
         due("nearest to 2 begins", desk.next(23, 0), 0);
         desk.nearest(22, 22, 20);
         due("nearest into a", desk.count(22), 0);
+        for (int point = 0; point < 1024; point += 31) {
+            FunctionDesk single = variables();
+            onePoint(single, 20, point);
+            single.nearest(21, 6, 20);
+            due("nearest of one point " + point, single.count(21), bit(point, 6) ? 1024 : 0);
+        }
         for (int s : WRONG_SLOTS) {
             noSlot("nearest s", d -> d.nearest(s, 0, 1));
             noSlot("nearest a", d -> d.nearest(0, s, 1));
@@ -447,8 +453,10 @@ public final class FunctionDeskPromises {
         desk.constant(21, true);
         due("depends of true", desk.depends(21), 0);
         due("depends of false", desk.depends(22), 0);
-        onePoint(desk, 23, 1023);
-        due("depends of one point", desk.depends(23), 1023);
+        for (int point = 0; point < 1024; point += 31) {
+            onePoint(desk, 23, point);
+            due("depends of one point", desk.depends(23), 1023);
+        }
         for (int s : WRONG_SLOTS) {
             noSlot("depends slot", d -> d.depends(s));
         }
