@@ -1,5 +1,7 @@
+import java.util.ArrayList;
 import java.util.Arrays;
 import java.util.HashSet;
+import java.util.List;
 import java.util.Random;
 import java.util.Set;
 
@@ -10,185 +12,158 @@ import java.util.Set;
 public final class FunctionDeskAgainstModel {
     private static final int RUNS = 60;
     private static final int CALLS = 512;
-    private static final long NO_SLOT = -1001;
-    private static final long NOT_AS_SAID = -1002;
 
-    private static int wrong = 0;
+    // Later calls only tell, so that what a run makes can be made again and asked for its points.
+    private static final int LAST_TO_MAKE = 384;
+
+    // All kinds alike soon make every function a constant; these make wide diagrams.
+    private static final Kind[] WIDENING = {
+        Kind.JOIN, Kind.CHOOSE, Kind.CHOOSE, Kind.PUT, Kind.SWAP, Kind.SWAP
+    };
 
     private final Random random;
     private final FunctionDesk desk = new FunctionDesk();
     private final boolean[][] model = new boolean[48][1024];
+    private final List<Call> making = new ArrayList<>();
     private final int slotsUsed;
-    private final boolean rich;
+    private final boolean wide;
     private int largest = 0;
 
-    private FunctionDeskAgainstModel(long seed) {
+    private record Call(Kind kind, int[] n, boolean flag) {
+        long on(FunctionDesk desk) {
+            return kind.answer(desk, n, flag);
+        }
+    }
+
+    private FunctionDeskAgainstModel(int seed) {
         random = new Random(seed);
         int[] widths = {6, 16, 48};
-        slotsUsed = widths[(int) (seed % 3)];
-        rich = seed % 4 != 0;
+        slotsUsed = widths[seed % 3];
+        wide = seed % 4 != 0;
     }
 
     public static void main(String[] args) {
         int largest = 0;
-        for (int seed = 0; seed < RUNS; seed++) {
+        for (int seed = 0; seed < RUNS && Checks.wrongSoFar() < 20; seed++) {
             FunctionDeskAgainstModel run = new FunctionDeskAgainstModel(seed);
-            for (int call = 0; call < CALLS && wrong < 20; call++) {
-                run.oneCall(seed, call);
+            for (int k = 0; k < CALLS && Checks.wrongSoFar() < 20; k++) {
+                run.oneCall("seed " + seed + " call " + k, run.drawCall(k));
             }
-            run.compareAll(seed);
+            run.compareTables("seed " + seed);
             largest = Math.max(largest, run.largest);
         }
-        if (largest < 4000) {
-            wrong++;
-            System.out.println("the runs reached only " + largest + " nodes together");
-        }
-        System.exit(wrong == 0 ? 0 : 1);
+        Checks.due("the runs reached 3000 nodes together", largest >= 3000, true);
+        Checks.end();
     }
 
-    private void oneCall(long seed, int call) {
-        int kind = call < 48 ? 1 : drawKind(call);
-        int[] args = new int[4];
-        for (int i = 0; i < 4; i++) {
-            args[i] = drawArgument(kind, i);
+    private Call drawCall(int k) {
+        Kind kind = k < 48 ? Kind.VARIABLE : drawKind(k);
+        int[] n = new int[4];
+        for (int place = 0; place < kind.places.length(); place++) {
+            n[place] = drawNumber(kind.places.charAt(place));
         }
-        if (call < 48) {
-            args[0] = call % slotsUsed;
-            args[1] = call % 10;
+        if (k < 48) {
+            n[0] = k % slotsUsed;
+            n[1] = k % 10;
         }
-        boolean flag = random.nextBoolean();
-        long want = modelAnswer(kind, args, flag);
-        long got = deskAnswer(kind, args, flag);
-        if (kind == 15) {
-            largest = Math.max(largest, (int) want);
+        if (kind == Kind.SIZES && random.nextInt(2) == 0) {
+            n[0] = 0;
+            n[1] = 47;
         }
-        if (got != want) {
-            wrong++;
-            System.out.println("seed " + seed + " call " + call + ": kind " + kind + " "
-                    + Arrays.toString(args) + " " + flag + " answered " + got + ", due is " + want);
-        }
+        return new Call(kind, n, random.nextBoolean());
     }
 
-    /**
-     * All kinds alike soon make every function a constant; so rich runs first choose between
-     * functions and join them, which makes wide diagrams, and seldom flatten them later.
-     */
-    private int drawKind(int call) {
-        if (!rich) {
-            return random.nextInt(17);
+    private Kind drawKind(int k) {
+        if (wide && k < LAST_TO_MAKE && random.nextInt(12) != 0) {
+            return WIDENING[random.nextInt(WIDENING.length)];
         }
-        if (call < 400 || random.nextInt(3) == 0) {
-            return RICH_KINDS[random.nextInt(RICH_KINDS.length)];
+        Kind kind = Kind.values()[random.nextInt(17)];
+        boolean flattens = kind == Kind.CONSTANT && random.nextInt(8) != 0;
+        if (flattens || kind.makes() && k >= LAST_TO_MAKE) {
+            return Kind.values()[9 + random.nextInt(8)];
         }
-        return random.nextInt(8) == 0 ? random.nextInt(10) : 10 + random.nextInt(7);
+        return kind;
     }
-
-    private static final int[] RICH_KINDS = {2, 2, 3, 3, 3, 6, 7, 7};
 
     /** Mostly a number that is right for its place; now and then any near the edges. */
-    private int drawArgument(int kind, int place) {
+    private int drawNumber(char sort) {
         if (random.nextInt(200) == 0) {
             int[] odd = {-1, 9, 10, 15, 16, 47, 48, 1023, 1024, Integer.MIN_VALUE, Integer.MAX_VALUE};
             return odd[random.nextInt(odd.length)];
         }
-        String places = PLACES[kind];
-        char sort = place < places.length() ? places.charAt(place) : '-';
         switch (sort) {
             case 's': return random.nextInt(slotsUsed);
-            case 'v': return random.nextInt(10);
-            case 'h': return rich && random.nextInt(4) != 0 ? 6 : random.nextInt(16);
-            case 'p': return random.nextInt(1024);
-            case 'q': return random.nextInt(1024) & random.nextInt(1024) & random.nextInt(1024);
-            case 'f': return random.nextInt(2) * random.nextInt(slotsUsed);
-            case 't': return slotsUsed - 1 - random.nextInt(2) * random.nextInt(slotsUsed);
-            default: return 0;
+            case 'h': return wide && random.nextInt(4) != 0 ? Checks.XOR : random.nextInt(16);
+            case 't': return random.nextInt(1024) & random.nextInt(1024) & random.nextInt(1024);
+            default: return random.nextInt(Kind.most(sort) + 1);
         }
     }
 
-    private static final String[] PLACES = {
-        "s", "sv", "sssh", "ssss", "ssv", "ssq", "ssvs", "ssvv", "sss", "sss",
-        "ss", "sp", "s", "sp", "s", "ft", "sv"
-    };
+    private void oneCall(String what, Call call) {
+        long want = modelAnswer(call);
+        if (call.kind.makes()) {
+            making.add(call);
+        }
+        if (call.kind == Kind.SIZES) {
+            largest = Math.max(largest, (int) want);
+        }
+        Checks.due(what + ", " + call.kind + " " + Arrays.toString(call.n) + " " + call.flag,
+                call.on(desk), want);
+    }
 
-    private long deskAnswer(int kind, int[] n, boolean flag) {
-        try {
-            switch (kind) {
-                case 0:
-                    // Constants flatten everything, so most of these draws ask for the size.
-                    if (n[0] % 8 != 0) {
-                        return desk.size(n[0]);
-                    }
-                    desk.constant(n[0], flag);
-                    return 0;
-                case 1: desk.variable(n[0], n[1]); return 0;
-                case 2: desk.join(n[0], n[1], n[2], n[3]); return 0;
-                case 3: desk.choose(n[0], n[1], n[2], n[3]); return 0;
-                case 4: desk.fix(n[0], n[1], n[2], flag); return 0;
-                case 5: desk.some(n[0], n[1], n[2], flag); return 0;
-                case 6: desk.put(n[0], n[1], n[2], n[3]); return 0;
-                case 7: desk.swap(n[0], n[1], n[2], n[3]); return 0;
-                case 8:
-                case 9: desk.nearest(n[0], n[1], n[2]); return 0;
-                case 10: return desk.isSame(n[0], n[1]) ? 1 : 0;
-                case 11: return desk.truth(n[0], n[1]) ? 1 : 0;
-                case 12: return desk.count(n[0]);
-                case 13: return desk.next(n[0], n[1]);
-                case 14: return desk.depends(n[0]);
-                case 15: return desk.sizes(n[0], n[1]);
-                default: return desk.level(n[0], n[1]);
-            }
-        } catch (IndexOutOfBoundsException e) {
-            return e.getClass() == IndexOutOfBoundsException.class ? NO_SLOT : 0;
-        } catch (IllegalArgumentException e) {
-            return e.getClass() == IllegalArgumentException.class ? NOT_AS_SAID : 0;
+    private void compareTables(String what) {
+        for (int s = 0; s < slotsUsed; s++) {
+            boolean[] table = model[s];
+            Checks.dueTable(what + ", slot " + s, d -> {
+                for (Call call : making) {
+                    call.on(d);
+                }
+            }, s, x -> table[x]);
         }
     }
 
-    private long modelAnswer(int kind, int[] n, boolean flag) {
-        String places = PLACES[kind];
-        for (int i = 0; i < places.length(); i++) {
-            if ("sft".indexOf(places.charAt(i)) >= 0 && (n[i] < 0 || n[i] > 47)) {
-                return NO_SLOT;
+    private long modelAnswer(Call call) {
+        String places = call.kind.places;
+        for (char refused : new char[] {'s', 'v', 'h', 't', 'p'}) {
+            for (int place = 0; place < places.length(); place++) {
+                if (places.charAt(place) == refused && !Kind.isAsSaid(refused, call.n[place])) {
+                    return refused == 's' ? Kind.NO_SLOT : Kind.NOT_AS_SAID;
+                }
             }
         }
-        for (int i = 0; i < places.length(); i++) {
-            char sort = places.charAt(i);
-            int most = sort == 'v' ? 9 : sort == 'h' ? 15 : 1023;
-            if (n[i] < 0 || n[i] > most) {
-                return NOT_AS_SAID;
-            }
-        }
-        return kind < 10 ? modelMakes(kind, n, flag) : modelTells(kind, n);
+        return call.kind.makes() ? modelMakes(call) : modelTells(call.kind, call.n);
     }
 
-    private long modelMakes(int kind, int[] n, boolean flag) {
-        if (kind == 0 && n[0] % 8 != 0) {
-            return nodesOf(n[0], n[0]).size();
-        }
-        if (kind >= 8 && leastFrom(model[n[2]], 0) < 0) {
-            return NOT_AS_SAID;
+    private long modelMakes(Call call) {
+        if (call.kind == Kind.NEAREST && leastFrom(model[call.n[2]], 0) < 0) {
+            return Kind.NOT_AS_SAID;
         }
         boolean[] made = new boolean[1024];
         for (int x = 0; x < 1024; x++) {
-            made[x] = madeTruth(kind, n, flag, x);
+            made[x] = madeTruth(call.kind, call.n, call.flag, x);
         }
-        model[n[0]] = made;
-        return 0;
+        model[call.n[0]] = made;
+        return Kind.MADE;
     }
 
-    private boolean madeTruth(int kind, int[] n, boolean flag, int x) {
-        boolean[] a = model[n[1] % 48];
+    private boolean madeTruth(Kind kind, int[] n, boolean flag, int x) {
+        boolean[] a = model[n[1]];
         switch (kind) {
-            case 0: return flag;
-            case 1: return bit(x, n[1]);
-            case 2: return (n[3] >> ((a[x] ? 2 : 0) + (model[n[2]][x] ? 1 : 0)) & 1) == 1;
-            case 3: return a[x] ? model[n[2]][x] : model[n[3]][x];
-            case 4: return a[with(x, n[2], flag)];
-            case 5: return quantified(a, n[2], flag, x);
-            case 6: return a[with(x, n[2], model[n[3]][x])];
-            case 7: return a[with(with(x, n[2], bit(x, n[3])), n[3], bit(x, n[2]))];
-            default: return a[nearestTo(model[n[2]], x)];
+            case CONSTANT: return flag;
+            case VARIABLE: return Checks.has(x, n[1]);
+            case JOIN: return (n[3] >> ((a[x] ? 2 : 0) + (model[n[2]][x] ? 1 : 0)) & 1) == 1;
+            case CHOOSE: return a[x] ? model[n[2]][x] : model[n[3]][x];
+            case FIX: return a[Checks.with(x, n[2], flag)];
+            case SOME: return quantified(a, n[2], flag, x);
+            case PUT: return a[Checks.with(x, n[2], model[n[3]][x])];
+            case SWAP: return a[swapped(x, n[2], n[3])];
+            case NEAREST: return a[nearestTo(model[n[2]], x)];
+            default: throw new AssertionError(kind);
         }
+    }
+
+    private static int swapped(int x, int v, int w) {
+        return Checks.with(Checks.with(x, v, Checks.has(x, w)), w, Checks.has(x, v));
     }
 
     private static boolean quantified(boolean[] a, int set, boolean every, int x) {
@@ -210,16 +185,18 @@ public final class FunctionDeskAgainstModel {
         return best;
     }
 
-    private long modelTells(int kind, int[] n) {
+    private long modelTells(Kind kind, int[] n) {
         boolean[] a = model[n[0]];
         switch (kind) {
-            case 10: return Arrays.equals(a, model[n[1]]) ? 1 : 0;
-            case 11: return a[n[1]] ? 1 : 0;
-            case 12: return countOf(a);
-            case 13: return leastFrom(a, n[1]);
-            case 14: return dependsOn(a);
-            case 15: return n[0] > n[1] ? NOT_AS_SAID : nodesOf(n[0], n[1]).size();
-            default: return toldBy(n[0], n[1]);
+            case IS_SAME: return Arrays.equals(a, model[n[1]]) ? 1 : 0;
+            case TRUTH: return a[n[1]] ? 1 : 0;
+            case COUNT: return countOf(a);
+            case NEXT: return leastFrom(a, n[1]);
+            case DEPENDS: return dependsOn(a);
+            case SIZE: return nodesOf(n[0], n[0]).size();
+            case SIZES: return n[0] > n[1] ? Kind.NOT_AS_SAID : nodesOf(n[0], n[1]).size();
+            case LEVEL: return toldBy(n[0], n[1]);
+            default: throw new AssertionError(kind);
         }
     }
 
@@ -243,10 +220,8 @@ public final class FunctionDeskAgainstModel {
     private static int dependsOn(boolean[] a) {
         int set = 0;
         for (int v = 0; v < 10; v++) {
-            for (int x = 0; x < 1024; x++) {
-                if (a[with(x, v, false)] != a[with(x, v, true)]) {
-                    set |= 1 << (9 - v);
-                }
+            if (dependsOn(a, v)) {
+                set |= Checks.bitOf(v);
             }
         }
         return set;
@@ -290,9 +265,8 @@ public final class FunctionDeskAgainstModel {
     }
 
     private static boolean dependsOn(boolean[] f, int v) {
-        int step = 1 << (9 - v);
         for (int x = 0; x < 1024; x++) {
-            if (f[x] != f[x ^ step]) {
+            if (f[Checks.with(x, v, false)] != f[Checks.with(x, v, true)]) {
                 return true;
             }
         }
@@ -302,29 +276,8 @@ public final class FunctionDeskAgainstModel {
     private static boolean[] fixed(boolean[] f, int v, boolean truth) {
         boolean[] g = new boolean[1024];
         for (int x = 0; x < 1024; x++) {
-            g[x] = f[with(x, v, truth)];
+            g[x] = f[Checks.with(x, v, truth)];
         }
         return g;
-    }
-
-    private static boolean bit(int x, int v) {
-        return (x >> (9 - v) & 1) == 1;
-    }
-
-    private static int with(int x, int v, boolean truth) {
-        int step = 1 << (9 - v);
-        return truth ? x | step : x & ~step;
-    }
-
-    private void compareAll(long seed) {
-        for (int s = 0; s < 48; s++) {
-            for (int x = 0; x < 1024; x++) {
-                if (desk.truth(s, x) != model[s][x]) {
-                    wrong++;
-                    System.out.println("seed " + seed + ": slot " + s + " is wrong at " + x);
-                    return;
-                }
-            }
-        }
     }
 }

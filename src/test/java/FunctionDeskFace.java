@@ -31,8 +31,6 @@ public final class FunctionDeskFace {
             "int sizes(int int)" + NUMBER,
             "int level(int int)" + NUMBER);
 
-    private static int wrong = 0;
-
     public static void main(String[] args) throws IllegalAccessException {
         Set<String> shown = new TreeSet<>();
         Set<String> publicNames = new TreeSet<>();
@@ -45,7 +43,8 @@ public final class FunctionDeskFace {
             if (isShown(method)) {
                 shown.add(written(method.getReturnType().getSimpleName() + " " + method.getName(), method));
                 publicNames.add(method.getName());
-                due(method.getName() + " is public and no static", method.getModifiers(), Modifier.PUBLIC);
+                Checks.due(method.getName() + " is public and no static",
+                        method.getModifiers(), Modifier.PUBLIC);
             }
         }
         for (Field field : FunctionDesk.class.getDeclaredFields()) {
@@ -53,28 +52,29 @@ public final class FunctionDeskFace {
                 shown.add(field.getName() + " " + field.getType() + " " + field.getInt(null));
             }
         }
-        due("the face", shown.toString(), new TreeSet<>(FACE).toString());
-        due("public final", FunctionDesk.class.getModifiers(), Modifier.PUBLIC | Modifier.FINAL);
+        Checks.due("the face", shown.toString(), new TreeSet<>(FACE).toString());
+        Checks.due("public final", FunctionDesk.class.getModifiers(), Modifier.PUBLIC | Modifier.FINAL);
         checkInside(FunctionDesk.class, publicNames);
         for (Class<?> inside : FunctionDesk.class.getDeclaredClasses()) {
-            due(inside + " is static", Modifier.isStatic(inside.getModifiers()), true);
-            due(inside + " is not open", (inside.getModifiers() & (Modifier.PUBLIC | Modifier.PROTECTED)), 0);
+            Checks.due(inside + " is static", Modifier.isStatic(inside.getModifiers()), true);
+            Checks.due(inside + " is not open",
+                    inside.getModifiers() & (Modifier.PUBLIC | Modifier.PROTECTED), 0);
             checkInside(inside, publicNames);
         }
-        System.exit(wrong == 0 ? 0 : 1);
+        Checks.end();
     }
 
     private static void checkInside(Class<?> part, Set<String> publicNames) {
         for (Field field : part.getDeclaredFields()) {
             int kind = field.getModifiers();
             if (Modifier.isStatic(kind) && !field.isSynthetic()) {
-                due("static field is final: " + field, Modifier.isFinal(kind), true);
+                Checks.due("static field is final: " + field, Modifier.isFinal(kind), true);
             }
         }
         for (Method method : part.getDeclaredMethods()) {
             boolean hidden = part != FunctionDesk.class || !Modifier.isPublic(method.getModifiers());
-            due("own name: " + method, hidden && publicNames.contains(method.getName()), false);
-            due("seven parameters: " + method, method.getParameterCount() <= 7, true);
+            Checks.due("own name: " + method, hidden && publicNames.contains(method.getName()), false);
+            Checks.due("seven parameters: " + method, method.getParameterCount() <= 7, true);
         }
     }
 
@@ -97,12 +97,5 @@ public final class FunctionDeskFace {
             text.append(text.length() == 0 ? "" : " ").append(type.getSimpleName());
         }
         return text.toString();
-    }
-
-    private static void due(String what, Object got, Object want) {
-        if (!got.equals(want)) {
-            wrong++;
-            System.out.println(what + ": is " + got + ", due is " + want);
-        }
     }
 }
